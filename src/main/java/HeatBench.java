@@ -423,7 +423,6 @@ public final class HeatBench {
 
         void begin(int n) {
             riders = n;
-            clearScores();
             for (int rider = 0; rider < MOST_RIDERS; rider++) {
                 faults[rider] = 0;
             }

@@ -24,6 +24,12 @@ final class Check {
         }
     }
 
+    /** As due(), for a call that must not have changed what could be seen of the object before it. */
+    void refused(HeatBench x, String call, long got, long want, String before) {
+        due(call, got, want);
+        same("after " + call, Sight.of(x), before);
+    }
+
     void end() {
         System.out.println(name + ": " + looked + " answers, " + wrong + " not as due");
         if (wrong != 0 || looked == 0) {

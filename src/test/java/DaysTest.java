@@ -26,23 +26,9 @@ public final class DaysTest {
         CHECK.end();
     }
 
-    private static void refused(HeatBench x, String call, long got, long want, String before) {
-        due(call, got, want);
-        CHECK.same("after " + call, Sight.of(x), before);
-    }
-
     private static void worth(HeatBench x, int day, int r, long above, long below) {
         due("worth(" + day + ", " + r + ", 0)", x.worth(day, r, 0), above);
         due("worth(" + day + ", " + r + ", 1)", x.worth(day, r, 1), below);
-    }
-
-    private static HeatBench waitOf(int... was) {
-        HeatBench x = new HeatBench();
-        x.days(was.length);
-        for (int day = 0; day < was.length; day++) {
-            x.was(day, was[day]);
-        }
-        return x;
     }
 
     private static void promise17Days() {
@@ -60,11 +46,11 @@ public final class DaysTest {
             due("17: no day d", x.was(d, 0), -9);
         }
         String before = Sight.of(x);
-        refused(x, "17: days(0)", x.days(0), -1, before);
-        refused(x, "17: days(10)", x.days(10), -1, before);
-        refused(x, "17: days(-1)", x.days(-1), -1, before);
-        refused(x, "17: days(max)", x.days(MAX), -1, before);
-        refused(x, "17: days(min)", x.days(MIN), -1, before);
+        CHECK.refused(x, "17: days(0)", x.days(0), -1, before);
+        CHECK.refused(x, "17: days(10)", x.days(10), -1, before);
+        CHECK.refused(x, "17: days(-1)", x.days(-1), -1, before);
+        CHECK.refused(x, "17: days(max)", x.days(MAX), -1, before);
+        CHECK.refused(x, "17: days(min)", x.days(MIN), -1, before);
         x.days(2);
         due("17: spans as at first", x.was(0, 9), -1);
         worth(x, 0, 2, 9, 1);
@@ -88,15 +74,15 @@ public final class DaysTest {
         due("18: other days stay", x.was(1, 9), 9);
         x.was(2, 0);
         String before = Sight.of(x);
-        refused(x, "18: day 5", x.span(5, 0, 0), -1, before);
-        refused(x, "18: day -1", x.span(-1, 0, 0), -1, before);
-        refused(x, "18: a -1", x.span(0, -1, 3), -1, before);
-        refused(x, "18: b 10", x.span(0, 1, 10), -1, before);
-        refused(x, "18: a 10", x.span(0, 10, 10), -1, before);
-        refused(x, "18: b -1", x.span(0, 0, -1), -1, before);
-        refused(x, "18: a above b", x.span(2, 6, 5), -1, before);
-        refused(x, "18: max", x.span(MAX, MAX, MAX), -1, before);
-        refused(x, "18: min", x.span(MIN, MIN, MIN), -1, before);
+        CHECK.refused(x, "18: day 5", x.span(5, 0, 0), -1, before);
+        CHECK.refused(x, "18: day -1", x.span(-1, 0, 0), -1, before);
+        CHECK.refused(x, "18: a -1", x.span(0, -1, 3), -1, before);
+        CHECK.refused(x, "18: b 10", x.span(0, 1, 10), -1, before);
+        CHECK.refused(x, "18: a 10", x.span(0, 10, 10), -1, before);
+        CHECK.refused(x, "18: b -1", x.span(0, 0, -1), -1, before);
+        CHECK.refused(x, "18: a above b", x.span(2, 6, 5), -1, before);
+        CHECK.refused(x, "18: max", x.span(MAX, MAX, MAX), -1, before);
+        CHECK.refused(x, "18: min", x.span(MIN, MIN, MIN), -1, before);
     }
 
     private static void promise19Was() {
@@ -110,15 +96,15 @@ public final class DaysTest {
         due("19: many", x.many(5), 1);
         x.was(1, 4);
         String before = Sight.of(x);
-        refused(x, "19: below", x.was(1, 2), -9, before);
-        refused(x, "19: above", x.was(1, 7), -9, before);
-        refused(x, "19: -2", x.was(1, -2), -9, before);
-        refused(x, "19: 10", x.was(0, 10), -9, before);
-        refused(x, "19: day 5", x.was(5, 0), -9, before);
-        refused(x, "19: day 5, unknown", x.was(5, -1), -9, before);
-        refused(x, "19: day -1", x.was(-1, 0), -9, before);
-        refused(x, "19: max", x.was(MAX, MAX), -9, before);
-        refused(x, "19: min", x.was(MIN, MIN), -9, before);
+        CHECK.refused(x, "19: below", x.was(1, 2), -9, before);
+        CHECK.refused(x, "19: above", x.was(1, 7), -9, before);
+        CHECK.refused(x, "19: -2", x.was(1, -2), -9, before);
+        CHECK.refused(x, "19: 10", x.was(0, 10), -9, before);
+        CHECK.refused(x, "19: day 5", x.was(5, 0), -9, before);
+        CHECK.refused(x, "19: day 5, unknown", x.was(5, -1), -9, before);
+        CHECK.refused(x, "19: day -1", x.was(-1, 0), -9, before);
+        CHECK.refused(x, "19: max", x.was(MAX, MAX), -9, before);
+        CHECK.refused(x, "19: min", x.was(MIN, MIN), -9, before);
     }
 
     private static void promise20Worth() {
@@ -185,19 +171,19 @@ public final class DaysTest {
     private static void promise20WorthRefusals() {
         HeatBench x = new HeatBench();
         String before = Sight.of(x);
-        refused(x, "20: day 6", x.worth(6, 0, 0), -9, before);
-        refused(x, "20: day -1", x.worth(-1, 0, 0), -9, before);
-        refused(x, "20: r -1", x.worth(0, -1, 0), -9, before);
-        refused(x, "20: r 10", x.worth(0, 10, 0), -9, before);
-        refused(x, "20: what 2", x.worth(0, 1, 2), -9, before);
-        refused(x, "20: what -1", x.worth(0, 1, -1), -9, before);
-        refused(x, "20: NUMBER ahead of NONE", x.worth(5, 1, 2), -9, before);
-        refused(x, "20: r 6", x.worth(0, 6, 0), -4, before);
-        refused(x, "20: r 9", x.worth(0, 9, 1), -4, before);
-        refused(x, "20: day 4, r 2", x.worth(4, 2, 0), -4, before);
-        refused(x, "20: day 5, r 1", x.worth(5, 1, 1), -4, before);
-        refused(x, "20: max", x.worth(MAX, MAX, MAX), -9, before);
-        refused(x, "20: min", x.worth(MIN, MIN, MIN), -9, before);
+        CHECK.refused(x, "20: day 6", x.worth(6, 0, 0), -9, before);
+        CHECK.refused(x, "20: day -1", x.worth(-1, 0, 0), -9, before);
+        CHECK.refused(x, "20: r -1", x.worth(0, -1, 0), -9, before);
+        CHECK.refused(x, "20: r 10", x.worth(0, 10, 0), -9, before);
+        CHECK.refused(x, "20: what 2", x.worth(0, 1, 2), -9, before);
+        CHECK.refused(x, "20: what -1", x.worth(0, 1, -1), -9, before);
+        CHECK.refused(x, "20: NUMBER ahead of NONE", x.worth(5, 1, 2), -9, before);
+        CHECK.refused(x, "20: r 6", x.worth(0, 6, 0), -4, before);
+        CHECK.refused(x, "20: r 9", x.worth(0, 9, 1), -4, before);
+        CHECK.refused(x, "20: day 4, r 2", x.worth(4, 2, 0), -4, before);
+        CHECK.refused(x, "20: day 5, r 1", x.worth(5, 1, 1), -4, before);
+        CHECK.refused(x, "20: max", x.worth(MAX, MAX, MAX), -9, before);
+        CHECK.refused(x, "20: min", x.worth(MIN, MIN, MIN), -9, before);
         x.days(9);
         x.days(2);
         due("20: days that are gone", x.worth(0, 3, 0), -4);
@@ -230,18 +216,18 @@ public final class DaysTest {
     private static void promise21CallRefusals() {
         HeatBench x = new HeatBench();
         String before = Sight.of(x);
-        refused(x, "21: day 5", x.call(5, 0, 0), -1, before);
-        refused(x, "21: day -1", x.call(-1, 0, 0), -1, before);
-        refused(x, "21: r 10", x.call(0, 10, 0), -1, before);
-        refused(x, "21: r -1", x.call(0, -1, 0), -1, before);
-        refused(x, "21: q 10", x.call(0, 1, 10), -1, before);
-        refused(x, "21: q -1", x.call(0, 1, -1), -1, before);
-        refused(x, "21: NUMBER ahead of NONE", x.call(4, 2, 10), -1, before);
-        refused(x, "21: r 6", x.call(0, 6, 0), -4, before);
-        refused(x, "21: r 9", x.call(0, 9, 0), -4, before);
-        refused(x, "21: day 4, r 2", x.call(4, 2, 9), -4, before);
-        refused(x, "21: max", x.call(MAX, MAX, MAX), -1, before);
-        refused(x, "21: min", x.call(MIN, MIN, MIN), -1, before);
+        CHECK.refused(x, "21: day 5", x.call(5, 0, 0), -1, before);
+        CHECK.refused(x, "21: day -1", x.call(-1, 0, 0), -1, before);
+        CHECK.refused(x, "21: r 10", x.call(0, 10, 0), -1, before);
+        CHECK.refused(x, "21: r -1", x.call(0, -1, 0), -1, before);
+        CHECK.refused(x, "21: q 10", x.call(0, 1, 10), -1, before);
+        CHECK.refused(x, "21: q -1", x.call(0, 1, -1), -1, before);
+        CHECK.refused(x, "21: NUMBER ahead of NONE", x.call(4, 2, 10), -1, before);
+        CHECK.refused(x, "21: r 6", x.call(0, 6, 0), -4, before);
+        CHECK.refused(x, "21: r 9", x.call(0, 9, 0), -4, before);
+        CHECK.refused(x, "21: day 4, r 2", x.call(4, 2, 9), -4, before);
+        CHECK.refused(x, "21: max", x.call(MAX, MAX, MAX), -1, before);
+        CHECK.refused(x, "21: min", x.call(MIN, MIN, MIN), -1, before);
     }
 
     private static void run(HeatBench x, int r, int bits, int sum, int length) {
@@ -272,49 +258,49 @@ public final class DaysTest {
     }
 
     private static void promise22RunCallsWhatItMust() {
-        HeatBench x = waitOf(0, 0, 0, 0, 0);
+        HeatBench x = Setup.waitOf(0, 0, 0, 0, 0);
         run(x, 2, 24, 0, 5);
         run(x, 1, 16, 0, 5);
-        x = waitOf(7, 1, 1);
+        x = Setup.waitOf(7, 1, 1);
         run(x, 1, 1, 7, 3);
         run(x, 2, 5, 8, 3);
-        x = waitOf(1, 2, 3, 4, 5, 6, 7, 8, 9);
+        x = Setup.waitOf(1, 2, 3, 4, 5, 6, 7, 8, 9);
         run(x, 9, 511, 45, 9);
         run(x, 0, 0, 0, 9);
     }
 
     private static void promise22RunRefusals() {
-        HeatBench x = waitOf(7, 1, 1);
+        HeatBench x = Setup.waitOf(7, 1, 1);
         String before = Sight.of(x);
-        refused(x, "22: r 4", x.run(4, 0), -1, before);
-        refused(x, "22: r -1", x.run(-1, 0), -1, before);
-        refused(x, "22: what 3", x.run(1, 3), -1, before);
-        refused(x, "22: what -1", x.run(1, -1), -1, before);
-        refused(x, "22: max", x.run(MAX, MAX), -1, before);
-        refused(x, "22: min", x.run(MIN, MIN), -1, before);
+        CHECK.refused(x, "22: r 4", x.run(4, 0), -1, before);
+        CHECK.refused(x, "22: r -1", x.run(-1, 0), -1, before);
+        CHECK.refused(x, "22: what 3", x.run(1, 3), -1, before);
+        CHECK.refused(x, "22: what -1", x.run(1, -1), -1, before);
+        CHECK.refused(x, "22: max", x.run(MAX, MAX), -1, before);
+        CHECK.refused(x, "22: min", x.run(MIN, MIN), -1, before);
         x.run(2, 0);
         CHECK.same("22: run changes nothing", Sight.of(x), before);
     }
 
     private static void promise23Behind() {
-        HeatBench x = waitOf(3, 8, 0, 8, 5);
+        HeatBench x = Setup.waitOf(3, 8, 0, 8, 5);
         int[] due = {0, 8, 16, 21, 24, 24};
         for (int r = 0; r <= 5; r++) {
             due("23: behind(" + r + ")", x.behind(r), due[r]);
         }
-        x = waitOf(9);
+        x = Setup.waitOf(9);
         due("23: behind(1)", x.behind(1), 9);
-        x = waitOf(9, 9, 9, 9, 9, 9, 9, 9, 9);
+        x = Setup.waitOf(9, 9, 9, 9, 9, 9, 9, 9, 9);
         due("23: behind(9)", x.behind(9), 81);
     }
 
     private static void promise23BehindRefusals() {
-        HeatBench x = waitOf(3, 8, 0, 8, 5);
+        HeatBench x = Setup.waitOf(3, 8, 0, 8, 5);
         String before = Sight.of(x);
-        refused(x, "23: r 6", x.behind(6), -1, before);
-        refused(x, "23: r -1", x.behind(-1), -1, before);
-        refused(x, "23: max", x.behind(MAX), -1, before);
-        refused(x, "23: min", x.behind(MIN), -1, before);
+        CHECK.refused(x, "23: r 6", x.behind(6), -1, before);
+        CHECK.refused(x, "23: r -1", x.behind(-1), -1, before);
+        CHECK.refused(x, "23: max", x.behind(MAX), -1, before);
+        CHECK.refused(x, "23: min", x.behind(MIN), -1, before);
         x.was(4, -1);
         due("23: NONE", x.behind(2), -4);
         due("23: NONE for 0 too", x.behind(0), -4);

@@ -15,6 +15,7 @@ public final class HeatsTest {
         promise3RightOfWay();
         promise3WhoWasNotInLine();
         promise3OnceForAWave();
+        promise3BackButOnTheWave();
         promise3RideAlone();
         promise3SameNumberAfterLettingGo();
         promise4Back();
@@ -36,18 +37,6 @@ public final class HeatsTest {
         HeatBench x = new HeatBench();
         x.heat(n);
         return x;
-    }
-
-    /** A ride on a wave of its own with one mark, so that its score is three times that. */
-    private static void ride(HeatBench x, int rider, int mark) {
-        int ride = x.take(rider, x.many(1));
-        x.mark(ride, 0, mark);
-        x.back(rider);
-    }
-
-    private static void refused(HeatBench x, String call, long got, long want, String before) {
-        due(call, got, want);
-        CHECK.same("after " + call, Sight.of(x), before);
     }
 
     private static void promise1NewObject() {
@@ -86,12 +75,12 @@ public final class HeatsTest {
             due("2: interferences", x.many(6), 1);
         }
         String before = Sight.of(x);
-        refused(x, "2: heat(1)", x.heat(1), -1, before);
-        refused(x, "2: heat(5)", x.heat(5), -1, before);
-        refused(x, "2: heat(0)", x.heat(0), -1, before);
-        refused(x, "2: heat(-2)", x.heat(-2), -1, before);
-        refused(x, "2: heat(max)", x.heat(Integer.MAX_VALUE), -1, before);
-        refused(x, "2: heat(min)", x.heat(Integer.MIN_VALUE), -1, before);
+        CHECK.refused(x, "2: heat(1)", x.heat(1), -1, before);
+        CHECK.refused(x, "2: heat(5)", x.heat(5), -1, before);
+        CHECK.refused(x, "2: heat(0)", x.heat(0), -1, before);
+        CHECK.refused(x, "2: heat(-2)", x.heat(-2), -1, before);
+        CHECK.refused(x, "2: heat(max)", x.heat(Integer.MAX_VALUE), -1, before);
+        CHECK.refused(x, "2: heat(min)", x.heat(Integer.MIN_VALUE), -1, before);
         due("2: the wave is not let go by refusals", x.letGo(), 1);
         due("2: heat(2)", x.heat(2), 2);
         due("2: no rides", x.many(1), 0);
@@ -127,15 +116,15 @@ public final class HeatsTest {
         due("3: rider", x.of(1, 0), 2);
         due("3: wave", x.of(1, 1), 99);
         String before = Sight.of(x);
-        refused(x, "3: take(-1, 5)", x.take(-1, 5), -1, before);
-        refused(x, "3: take(3, 5)", x.take(3, 5), -1, before);
-        refused(x, "3: take(0, -1)", x.take(0, -1), -1, before);
-        refused(x, "3: take(0, 100)", x.take(0, 100), -1, before);
-        refused(x, "3: take(max, max)", x.take(Integer.MAX_VALUE, Integer.MAX_VALUE), -1, before);
-        refused(x, "3: take(min, min)", x.take(Integer.MIN_VALUE, Integer.MIN_VALUE), -1, before);
-        refused(x, "3: NUMBER ahead of STATE", x.take(1, 100), -1, before);
-        refused(x, "3: take(1, 5)", x.take(1, 5), -3, before);
-        refused(x, "3: take(2, 99)", x.take(2, 99), -3, before);
+        CHECK.refused(x, "3: take(-1, 5)", x.take(-1, 5), -1, before);
+        CHECK.refused(x, "3: take(3, 5)", x.take(3, 5), -1, before);
+        CHECK.refused(x, "3: take(0, -1)", x.take(0, -1), -1, before);
+        CHECK.refused(x, "3: take(0, 100)", x.take(0, 100), -1, before);
+        CHECK.refused(x, "3: take(max, max)", x.take(Integer.MAX_VALUE, Integer.MAX_VALUE), -1, before);
+        CHECK.refused(x, "3: take(min, min)", x.take(Integer.MIN_VALUE, Integer.MIN_VALUE), -1, before);
+        CHECK.refused(x, "3: NUMBER ahead of STATE", x.take(1, 100), -1, before);
+        CHECK.refused(x, "3: take(1, 5)", x.take(1, 5), -3, before);
+        CHECK.refused(x, "3: take(2, 99)", x.take(2, 99), -3, before);
         due("3: refused takes let nothing go", x.letGo(), 1);
     }
 
@@ -148,9 +137,9 @@ public final class HeatsTest {
             }
         }
         String before = Sight.of(x);
-        refused(x, "3: STATE ahead of FULL", x.take(1, 1), -3, before);
-        refused(x, "3: NUMBER ahead of FULL", x.take(0, 100), -1, before);
-        refused(x, "3: FULL", x.take(0, 29), -2, before);
+        CHECK.refused(x, "3: STATE ahead of FULL", x.take(1, 1), -3, before);
+        CHECK.refused(x, "3: NUMBER ahead of FULL", x.take(0, 100), -1, before);
+        CHECK.refused(x, "3: FULL", x.take(0, 29), -2, before);
         due("3: the last ride", x.of(29, 1), 29);
         due("3: no ride 30", x.of(30, 1), -1);
         due("3: still in line", x.line(0), 0);
@@ -187,6 +176,9 @@ public final class HeatsTest {
         x.take(1, 2);
         due("3: the line's order, not numbers: 0", x.told(0, 3), 1);
         due("3: the line's order, not numbers: 1", x.told(1, 3), 0);
+        due("3: of all", x.many(6), 1);
+        x.heat(2);
+        due("2: no interferences of rider 0 either", x.told(0, 3), 0);
     }
 
     private static void promise3WhoWasNotInLine() {
@@ -240,6 +232,15 @@ public final class HeatsTest {
         due("3: rides", x.told(1, 0), 3);
     }
 
+    private static void promise3BackButOnTheWave() {
+        HeatBench x = new HeatBench();
+        x.take(1, 5);
+        x.back(1);
+        x.take(0, 5);
+        due("3: the wave wasn't let go, so 1 rides it still", x.told(1, 3), 1);
+        due("3: 0 stood first", x.told(0, 3), 0);
+    }
+
     private static void promise3RideAlone() {
         HeatBench x = new HeatBench();
         x.take(1, 5);
@@ -283,11 +284,11 @@ public final class HeatsTest {
             due("4: line", x.line(i), line[i]);
         }
         String before = Sight.of(x);
-        refused(x, "4: back(0)", x.back(0), -3, before);
-        refused(x, "4: back(4)", x.back(4), -1, before);
-        refused(x, "4: back(-1)", x.back(-1), -1, before);
-        refused(x, "4: back(max)", x.back(Integer.MAX_VALUE), -1, before);
-        refused(x, "4: back(min)", x.back(Integer.MIN_VALUE), -1, before);
+        CHECK.refused(x, "4: back(0)", x.back(0), -3, before);
+        CHECK.refused(x, "4: back(4)", x.back(4), -1, before);
+        CHECK.refused(x, "4: back(-1)", x.back(-1), -1, before);
+        CHECK.refused(x, "4: back(max)", x.back(Integer.MAX_VALUE), -1, before);
+        CHECK.refused(x, "4: back(min)", x.back(Integer.MIN_VALUE), -1, before);
         x.heat(2);
         due("4: no such rider", x.back(2), -1);
         due("4: all wait as a heat begins", x.back(1), -3);
@@ -324,16 +325,16 @@ public final class HeatsTest {
         due("6: each ride has its own", x.of(0, 3), 99);
         due("6: so has this", x.of(1, 3), 132);
         String before = Sight.of(x);
-        refused(x, "6: ride 2", x.mark(2, 0, 1), -9, before);
-        refused(x, "6: ride -1", x.mark(-1, 0, 1), -9, before);
-        refused(x, "6: ride 30", x.mark(30, 0, 1), -9, before);
-        refused(x, "6: judge 5", x.mark(0, 5, 1), -9, before);
-        refused(x, "6: judge -1", x.mark(1, -1, 1), -9, before);
-        refused(x, "6: v 101", x.mark(0, 0, 101), -9, before);
-        refused(x, "6: v -2", x.mark(0, 0, -2), -9, before);
-        refused(x, "6: min", x.mark(Integer.MIN_VALUE, Integer.MIN_VALUE, Integer.MIN_VALUE), -9, before);
-        refused(x, "6: max", x.mark(Integer.MAX_VALUE, Integer.MAX_VALUE, Integer.MAX_VALUE), -9, before);
-        refused(x, "6: a large ride", x.mark(858993460, 0, 1), -9, before);
+        CHECK.refused(x, "6: ride 2", x.mark(2, 0, 1), -9, before);
+        CHECK.refused(x, "6: ride -1", x.mark(-1, 0, 1), -9, before);
+        CHECK.refused(x, "6: ride 30", x.mark(30, 0, 1), -9, before);
+        CHECK.refused(x, "6: judge 5", x.mark(0, 5, 1), -9, before);
+        CHECK.refused(x, "6: judge -1", x.mark(1, -1, 1), -9, before);
+        CHECK.refused(x, "6: v 101", x.mark(0, 0, 101), -9, before);
+        CHECK.refused(x, "6: v -2", x.mark(0, 0, -2), -9, before);
+        CHECK.refused(x, "6: min", x.mark(Integer.MIN_VALUE, Integer.MIN_VALUE, Integer.MIN_VALUE), -9, before);
+        CHECK.refused(x, "6: max", x.mark(Integer.MAX_VALUE, Integer.MAX_VALUE, Integer.MAX_VALUE), -9, before);
+        CHECK.refused(x, "6: a large ride", x.mark(858993460, 0, 1), -9, before);
     }
 
     private static void promise7Of() {
@@ -377,6 +378,12 @@ public final class HeatsTest {
         due("7: the rest away", x.of(0, 3), 101);
         x.mark(0, 0, -1);
         due("7: of two", x.of(0, 3), 151);
+        for (int judge = 0; judge < 5; judge++) {
+            x.mark(0, judge, 0);
+        }
+        due("7: five times nothing", x.of(0, 3), 0);
+        x.mark(0, 0, -1);
+        due("7: four times nothing", x.of(0, 3), 0);
     }
 
     private static void promise8Line() {
@@ -403,15 +410,15 @@ public final class HeatsTest {
         due("9: place 0", x.told(0, 5), 0);
         due("9: place 1", x.told(1, 5), 1);
         due("9: place 2", x.told(2, 5), 2);
-        ride(x, 1, 30);
+        Setup.ride(x, 1, 30);
         due("9: rides", x.told(1, 0), 1);
         due("9: best", x.told(1, 1), 90);
         due("9: no second", x.told(1, 2), 0);
         due("9: total", x.told(1, 4), 90);
-        ride(x, 1, 10);
-        ride(x, 1, 20);
-        ride(x, 2, 30);
-        ride(x, 2, 30);
+        Setup.ride(x, 1, 10);
+        Setup.ride(x, 1, 20);
+        Setup.ride(x, 2, 30);
+        Setup.ride(x, 2, 30);
         due("9: rides", x.told(1, 0), 3);
         due("9: second", x.told(1, 2), 60);
         due("9: total", x.told(1, 4), 150);
@@ -422,12 +429,12 @@ public final class HeatsTest {
         due("9: place of 0", x.told(0, 5), 2);
         due("9: interfered", x.told(1, 3), 0);
         String before = Sight.of(x);
-        refused(x, "9: rider 3", x.told(3, 0), -1, before);
-        refused(x, "9: rider -1", x.told(-1, 0), -1, before);
-        refused(x, "9: what 6", x.told(0, 6), -1, before);
-        refused(x, "9: what -1", x.told(0, -1), -1, before);
-        refused(x, "9: max", x.told(Integer.MAX_VALUE, 0), -1, before);
-        refused(x, "9: min", x.told(0, Integer.MIN_VALUE), -1, before);
+        CHECK.refused(x, "9: rider 3", x.told(3, 0), -1, before);
+        CHECK.refused(x, "9: rider -1", x.told(-1, 0), -1, before);
+        CHECK.refused(x, "9: what 6", x.told(0, 6), -1, before);
+        CHECK.refused(x, "9: what -1", x.told(0, -1), -1, before);
+        CHECK.refused(x, "9: max", x.told(Integer.MAX_VALUE, 0), -1, before);
+        CHECK.refused(x, "9: min", x.told(0, Integer.MIN_VALUE), -1, before);
     }
 
     private static void promise9Halves() {
@@ -458,14 +465,14 @@ public final class HeatsTest {
 
     private static void promise9Ties() {
         HeatBench x = heatOf(4);
-        ride(x, 3, 50);
-        ride(x, 3, 10);
-        ride(x, 2, 30);
-        ride(x, 2, 30);
-        ride(x, 1, 50);
-        ride(x, 1, 10);
-        ride(x, 0, 20);
-        ride(x, 0, 40);
+        Setup.ride(x, 3, 50);
+        Setup.ride(x, 3, 10);
+        Setup.ride(x, 2, 30);
+        Setup.ride(x, 2, 30);
+        Setup.ride(x, 1, 50);
+        Setup.ride(x, 1, 10);
+        Setup.ride(x, 0, 20);
+        Setup.ride(x, 0, 40);
         due("9: the greater best, then the lesser number", x.told(1, 5), 0);
         due("9: then this", x.told(3, 5), 1);
         due("9: then 40 and 20", x.told(0, 5), 2);
@@ -478,23 +485,23 @@ public final class HeatsTest {
         due("10: 1 needs a score", x.need(1, 0), 1);
         due("10: 1 is second", x.need(1, 1), 0);
         due("10: any place is good", x.need(2, 3), 0);
-        ride(x, 0, 100);
+        Setup.ride(x, 0, 100);
         due("10: just the greatest is not enough of a tie", x.need(1, 0), -4);
-        ride(x, 1, 100);
+        Setup.ride(x, 1, 100);
         due("10: 300 and one more", x.need(1, 0), 1);
-        ride(x, 0, 100);
+        Setup.ride(x, 0, 100);
         due("10: 600 is out of reach", x.need(1, 0), -4);
         due("10: second is there", x.need(2, 1), -4);
         due("10: third", x.need(2, 2), 0);
         due("10: first", x.need(0, 0), 0);
         String before = Sight.of(x);
-        refused(x, "10: k 4", x.need(0, 4), -1, before);
-        refused(x, "10: k -1", x.need(0, -1), -1, before);
-        refused(x, "10: rider 3", x.need(3, 0), -1, before);
-        refused(x, "10: rider -1", x.need(-1, 0), -1, before);
-        refused(x, "10: NONE", x.need(1, 0), -4, before);
-        refused(x, "10: max", x.need(Integer.MAX_VALUE, Integer.MAX_VALUE), -1, before);
-        refused(x, "10: min", x.need(Integer.MIN_VALUE, Integer.MIN_VALUE), -1, before);
+        CHECK.refused(x, "10: k 4", x.need(0, 4), -1, before);
+        CHECK.refused(x, "10: k -1", x.need(0, -1), -1, before);
+        CHECK.refused(x, "10: rider 3", x.need(3, 0), -1, before);
+        CHECK.refused(x, "10: rider -1", x.need(-1, 0), -1, before);
+        CHECK.refused(x, "10: NONE", x.need(1, 0), -4, before);
+        CHECK.refused(x, "10: max", x.need(Integer.MAX_VALUE, Integer.MAX_VALUE), -1, before);
+        CHECK.refused(x, "10: min", x.need(Integer.MIN_VALUE, Integer.MIN_VALUE), -1, before);
         x.heat(2);
         due("10: k 3 of two riders", x.need(1, 3), 0);
         for (int i = 0; i < 30; i++) {
@@ -527,19 +534,19 @@ public final class HeatsTest {
 
     private static void promise10NeedTies() {
         HeatBench x = new HeatBench();
-        ride(x, 0, 50);
-        ride(x, 0, 20);
-        ride(x, 1, 40);
+        Setup.ride(x, 0, 50);
+        Setup.ride(x, 0, 20);
+        Setup.ride(x, 1, 40);
         due("10: 210 with a lesser best isn't enough", x.need(1, 0), 91);
-        ride(x, 1, 10);
+        Setup.ride(x, 1, 10);
         due("10: the second is replaced", x.need(1, 0), 91);
         x = new HeatBench();
-        ride(x, 0, 40);
-        ride(x, 0, 30);
-        ride(x, 1, 20);
+        Setup.ride(x, 0, 40);
+        Setup.ride(x, 0, 30);
+        Setup.ride(x, 1, 20);
         due("10: a greater best decides", x.need(1, 0), 150);
         x = new HeatBench();
-        ride(x, 1, 50);
+        Setup.ride(x, 1, 50);
         due("10: the lesser number is first of like ones", x.need(0, 0), 150);
     }
 }

@@ -23,43 +23,31 @@ public final class PastAndLuckTest {
         CHECK.end();
     }
 
-    private static void refused(HeatBench x, String call, long got, long want, String before) {
-        due(call, got, want);
-        CHECK.same("after " + call, Sight.of(x), before);
-    }
-
-    /** A ride on a wave of its own with one mark, so that its score is three times that. */
-    private static void ride(HeatBench x, int rider, int mark) {
-        int ride = x.take(rider, x.many(1));
-        x.mark(ride, 0, mark);
-        x.back(rider);
-    }
-
     private static void promise11Past() {
         HeatBench x = new HeatBench();
         due("11: past(0)", x.past(0), 1);
         due("11: past(300)", x.past(300), 2);
         due("11: like ones", x.past(300), 3);
         String before = Sight.of(x);
-        refused(x, "11: past(-1)", x.past(-1), -1, before);
-        refused(x, "11: past(301)", x.past(301), -1, before);
-        refused(x, "11: past(max)", x.past(Integer.MAX_VALUE), -1, before);
-        refused(x, "11: past(min)", x.past(Integer.MIN_VALUE), -1, before);
+        CHECK.refused(x, "11: past(-1)", x.past(-1), -1, before);
+        CHECK.refused(x, "11: past(301)", x.past(301), -1, before);
+        CHECK.refused(x, "11: past(max)", x.past(Integer.MAX_VALUE), -1, before);
+        CHECK.refused(x, "11: past(min)", x.past(Integer.MIN_VALUE), -1, before);
         for (int i = 4; i <= 40; i++) {
             due("11: past", x.past(i), i);
         }
         before = Sight.of(x);
-        refused(x, "11: FULL", x.past(5), -2, before);
-        refused(x, "11: NUMBER ahead of FULL", x.past(301), -1, before);
+        CHECK.refused(x, "11: FULL", x.past(5), -2, before);
+        CHECK.refused(x, "11: NUMBER ahead of FULL", x.past(301), -1, before);
         due("11: many", x.many(3), 40);
     }
 
     private static void promise12Keep() {
         HeatBench x = new HeatBench();
         due("12: without rides", x.keep(), 0);
-        ride(x, 0, 0);
-        ride(x, 1, -1);
-        ride(x, 1, 50);
+        Setup.ride(x, 0, 0);
+        Setup.ride(x, 1, -1);
+        Setup.ride(x, 1, 50);
         due("12: a mark of 0 is one", x.keep(), 2);
         due("12: many", x.many(3), 2);
         due("12: the need of 0", x.need(0, 0), 150);
@@ -75,15 +63,15 @@ public final class PastAndLuckTest {
 
     private static void promise12KeepFull() {
         HeatBench x = new HeatBench();
-        ride(x, 0, 10);
-        ride(x, 1, 20);
+        Setup.ride(x, 0, 10);
+        Setup.ride(x, 1, 20);
         for (int i = 0; i < 38; i++) {
             x.past(0);
         }
         due("12: just 40", x.keep(), 2);
         due("12: many", x.many(3), 40);
         String before = Sight.of(x);
-        refused(x, "12: FULL", x.keep(), -2, before);
+        CHECK.refused(x, "12: FULL", x.keep(), -2, before);
         x.mark(0, 0, -1);
         x.mark(1, 0, -1);
         due("12: none comes", x.keep(), 0);
@@ -94,7 +82,7 @@ public final class PastAndLuckTest {
         x.mark(0, 0, 10);
         x.mark(1, 0, 10);
         before = Sight.of(x);
-        refused(x, "12: FULL, none comes of two", x.keep(), -2, before);
+        CHECK.refused(x, "12: FULL, none comes of two", x.keep(), -2, before);
         x.mark(1, 0, -1);
         due("12: one comes", x.keep(), 1);
     }
@@ -109,7 +97,7 @@ public final class PastAndLuckTest {
         due("13: again", x.forget(), 0);
         due("13: chance", x.chance(0, 0, 0), 0);
         x.past(0);
-        ride(x, 1, 10);
+        Setup.ride(x, 1, 10);
         due("13: the old ones are gone", x.chance(0, 0, 0), 0);
         due("13: of one", x.chance(0, 0, 1), 1);
     }
@@ -118,7 +106,7 @@ public final class PastAndLuckTest {
         HeatBench x = new HeatBench();
         due("14: without past", x.chance(0, 0, 0), 0);
         due("14: without past", x.chance(0, 0, 1), 1);
-        ride(x, 0, 50);
+        Setup.ride(x, 0, 50);
         due("14: need", x.need(1, 0), 151);
         x.past(150);
         due("14: just below", x.chance(1, 0, 0), 0);
@@ -141,21 +129,21 @@ public final class PastAndLuckTest {
 
     private static void promise14ChanceRefusals() {
         HeatBench x = new HeatBench();
-        ride(x, 0, 100);
+        Setup.ride(x, 0, 100);
         x.past(200);
         String before = Sight.of(x);
-        refused(x, "14: NONE", x.chance(1, 0, 0), -4, before);
-        refused(x, "14: NONE", x.chance(1, 0, 1), -4, before);
-        refused(x, "14: NUMBER ahead of NONE", x.chance(1, 0, 2), -1, before);
-        refused(x, "14: what -1", x.chance(0, 0, -1), -1, before);
-        refused(x, "14: rider 2", x.chance(2, 0, 0), -1, before);
-        refused(x, "14: rider -1", x.chance(-1, 0, 1), -1, before);
-        refused(x, "14: k 4", x.chance(0, 4, 1), -1, before);
-        refused(x, "14: k -1", x.chance(0, -1, 1), -1, before);
+        CHECK.refused(x, "14: NONE", x.chance(1, 0, 0), -4, before);
+        CHECK.refused(x, "14: NONE", x.chance(1, 0, 1), -4, before);
+        CHECK.refused(x, "14: NUMBER ahead of NONE", x.chance(1, 0, 2), -1, before);
+        CHECK.refused(x, "14: what -1", x.chance(0, 0, -1), -1, before);
+        CHECK.refused(x, "14: rider 2", x.chance(2, 0, 0), -1, before);
+        CHECK.refused(x, "14: rider -1", x.chance(-1, 0, 1), -1, before);
+        CHECK.refused(x, "14: k 4", x.chance(0, 4, 1), -1, before);
+        CHECK.refused(x, "14: k -1", x.chance(0, -1, 1), -1, before);
         int max = Integer.MAX_VALUE;
-        refused(x, "14: max", x.chance(max, max, max), -1, before);
+        CHECK.refused(x, "14: max", x.chance(max, max, max), -1, before);
         int min = Integer.MIN_VALUE;
-        refused(x, "14: min", x.chance(min, min, min), -1, before);
+        CHECK.refused(x, "14: min", x.chance(min, min, min), -1, before);
         x.forget();
         due("14: NONE without past", x.chance(1, 0, 0), -4);
         due("14: k 3 of two", x.chance(1, 3, 1), 1);
@@ -165,15 +153,15 @@ public final class PastAndLuckTest {
         HeatBench x = new HeatBench();
         due("15: without rides", x.ways(), 1);
         for (int i = 0; i < 8; i++) {
-            ride(x, 0, 10);
+            Setup.ride(x, 0, 10);
             due("15: all of one rider", x.ways(), 1);
         }
-        ride(x, 0, 10);
+        Setup.ride(x, 0, 10);
         due("15: nine", x.ways(), -5);
         x.heat(2);
         int[] two = {1, 2, 3, 6, 10, 20, 35, 70};
         for (int i = 0; i < 8; i++) {
-            ride(x, i % 2, 10);
+            Setup.ride(x, i % 2, 10);
             due("15: by turns", x.ways(), two[i]);
         }
         String before = Sight.of(x);
@@ -186,7 +174,7 @@ public final class PastAndLuckTest {
         x.heat(4);
         int[] due = {1, 2, 6, 24, 60, 180, 630, 2520};
         for (int i = 0; i < 8; i++) {
-            ride(x, 3 - i % 4, 10);
+            Setup.ride(x, 3 - i % 4, 10);
             due("15: of four", x.ways(), due[i]);
         }
     }
@@ -196,17 +184,17 @@ public final class PastAndLuckTest {
         x.heat(3);
         due("16: without rides", x.luck(0), 1);
         due("16: without rides", x.luck(1), 0);
-        ride(x, 2, 10);
+        Setup.ride(x, 2, 10);
         due("16: one ride, its own", x.luck(2), 1);
-        ride(x, 1, 20);
+        Setup.ride(x, 1, 20);
         due("16: either", x.luck(2), 1);
         due("16: either", x.luck(1), 1);
         due("16: never", x.luck(0), 0);
-        ride(x, 0, 30);
+        Setup.ride(x, 0, 30);
         for (int rider = 0; rider < 3; rider++) {
             due("16: two of six", x.luck(rider), 2);
         }
-        ride(x, 0, 5);
+        Setup.ride(x, 0, 5);
         // Of 12 ways 0 has the 30 in 6; with 10 and 20 it has 30 too, but the one with the 30 has the greater best.
         due("16: two rides", x.luck(0), 6);
         due("16: one ride", x.luck(1), 3);
@@ -214,7 +202,7 @@ public final class PastAndLuckTest {
         due("16: ways", x.ways(), 12);
         x.heat(4);
         for (int i = 0; i < 8; i++) {
-            ride(x, i % 4, 10 + i);
+            Setup.ride(x, i % 4, 10 + i);
         }
         int all = 0;
         for (int rider = 0; rider < 4; rider++) {
@@ -226,14 +214,14 @@ public final class PastAndLuckTest {
     private static void promise16LuckTies() {
         HeatBench x = new HeatBench();
         for (int i = 0; i < 8; i++) {
-            ride(x, i % 2, 50);
+            Setup.ride(x, i % 2, 50);
         }
         due("16: like rides are dealt as rides", x.luck(0), 70);
         due("16: the lesser number is first", x.luck(1), 0);
         x.heat(2);
-        ride(x, 0, 50);
-        ride(x, 1, 20);
-        ride(x, 1, 30);
+        Setup.ride(x, 0, 50);
+        Setup.ride(x, 1, 20);
+        Setup.ride(x, 1, 30);
         due("16: 50, or 30, or 20 against the other two", x.luck(0), 1);
         due("16: the greater best of like totals", x.luck(1), 2);
     }
@@ -246,8 +234,8 @@ public final class PastAndLuckTest {
         x.mark(1, 0, 20);
         x.back(0);
         x.back(1);
-        ride(x, 1, 30);
-        ride(x, 1, 40);
+        Setup.ride(x, 1, 30);
+        Setup.ride(x, 1, 40);
         // Rider 1 has interfered once: with 10, 20, 30 it has 30 + 20 / 2, a tie with the 40 of rider 0.
         due("16: ways", x.ways(), 4);
         due("16: faults stay with riders", x.luck(0), 1);
@@ -281,17 +269,17 @@ public final class PastAndLuckTest {
     private static void promise16LuckRefusals() {
         HeatBench x = new HeatBench();
         for (int i = 0; i < 9; i++) {
-            ride(x, 0, i);
+            Setup.ride(x, 0, i);
         }
         String before = Sight.of(x);
-        refused(x, "16: LARGE", x.luck(0), -5, before);
-        refused(x, "16: LARGE", x.ways(), -5, before);
-        refused(x, "16: NUMBER ahead of LARGE", x.luck(2), -1, before);
-        refused(x, "16: -1", x.luck(-1), -1, before);
-        refused(x, "16: max", x.luck(Integer.MAX_VALUE), -1, before);
-        refused(x, "16: min", x.luck(Integer.MIN_VALUE), -1, before);
+        CHECK.refused(x, "16: LARGE", x.luck(0), -5, before);
+        CHECK.refused(x, "16: LARGE", x.ways(), -5, before);
+        CHECK.refused(x, "16: NUMBER ahead of LARGE", x.luck(2), -1, before);
+        CHECK.refused(x, "16: -1", x.luck(-1), -1, before);
+        CHECK.refused(x, "16: max", x.luck(Integer.MAX_VALUE), -1, before);
+        CHECK.refused(x, "16: min", x.luck(Integer.MIN_VALUE), -1, before);
         for (int i = 9; i < 30; i++) {
-            ride(x, 0, i);
+            Setup.ride(x, 0, i);
         }
         due("16: thirty", x.luck(1), -5);
         x.heat(3);
@@ -303,7 +291,7 @@ public final class PastAndLuckTest {
         HeatBench x = new HeatBench();
         x.heat(4);
         for (int i = 0; i < 8; i++) {
-            ride(x, (i * 3) % 4, 90 - 7 * i);
+            Setup.ride(x, (i * 3) % 4, 90 - 7 * i);
         }
         String before = Sight.of(x);
         int luck = x.luck(1);
