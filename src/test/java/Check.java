@@ -1,11 +1,24 @@
+import java.util.function.Function;
+import java.util.function.Supplier;
+import java.util.function.ToLongFunction;
+
 /** Counts the answers that are not as due, and prints each of them. */
 final class Check {
-    private final String name;
+    private String name;
     private int looked = 0;
     private int wrong = 0;
 
     Check(String name) {
         this.name = name;
+    }
+
+    int looked() {
+        return looked;
+    }
+
+    /** What follows is told under this name. */
+    void under(String newName) {
+        name = newName;
     }
 
     void due(String call, long got, long want) {
@@ -24,10 +37,18 @@ final class Check {
         }
     }
 
-    /** As due(), for a call that must not have changed what could be seen of the object before it. */
-    void refused(HeatBench x, String call, long got, long want, String before) {
-        due(call, got, want);
-        same("after " + call, Sight.of(x), before);
+    /** A call that is refused in a state, and changes nothing of it. */
+    void refused(String call, Supplier<Bench> state, ToLongFunction<Bench> ask, long want) {
+        due(call, ask.applyAsLong(state.get()), want);
+        unchanged(call, state, ask);
+    }
+
+    void unchanged(String call, Supplier<Bench> state, ToLongFunction<Bench> ask) {
+        for (Function<Bench, String> view : Views.ALL) {
+            Bench asked = state.get();
+            ask.applyAsLong(asked);
+            same("after " + call, view.apply(asked), view.apply(state.get()));
+        }
     }
 
     void end() {

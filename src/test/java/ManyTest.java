@@ -1,21 +1,20 @@
-/** Promise 24: many. */
+/** Promise 24: many, as the other calls change it. Its refusals are looked at by ObjectEdgesTest. */
 public final class ManyTest {
     private static final Check CHECK = new Check("ManyTest");
 
     public static void main(String[] args) {
         counts();
-        refusals();
         CHECK.end();
     }
 
-    private static void due(HeatBench x, int... want) {
+    private static void due(Bench x, int... want) {
         for (int what = 0; what < want.length; what++) {
             CHECK.due("24: many(" + what + ")", x.many(what), want[what]);
         }
     }
 
     private static void counts() {
-        HeatBench x = new HeatBench();
+        Bench x = new Bench();
         due(x, 2, 0, 2, 0, 5, 0, 0);
         x.heat(4);
         due(x, 4, 0, 4, 0, 5, 0, 0);
@@ -43,15 +42,5 @@ public final class ManyTest {
         due(x, 3, 0, 3, 0, 8, 1, 0);
         x.days(1);
         due(x, 3, 0, 3, 0, 1, 0, 0);
-    }
-
-    private static void refusals() {
-        HeatBench x = new HeatBench();
-        String before = Sight.of(x);
-        int[] wrong = {-1, 7, 8, 100, Integer.MAX_VALUE, Integer.MIN_VALUE};
-        for (int what : wrong) {
-            CHECK.due("24: many(" + what + ")", x.many(what), -1);
-        }
-        CHECK.same("24: nothing changes", Sight.of(x), before);
     }
 }

@@ -3,7 +3,6 @@ import java.util.Random;
 /** Runs of random calls (the same ones each time), each answered by HeatBench as by the Model. */
 public final class RandomRunsTest {
     private static final Check CHECK = new Check("RandomRunsTest");
-    private static final int CALLS = 512;
     private static final int[] WILD = {
         Integer.MIN_VALUE, Integer.MAX_VALUE, -2, -1, 10, 30, 31, 32, 100, 101, 300, 301, 1 << 29, 858993460,
     };
@@ -18,7 +17,7 @@ public final class RandomRunsTest {
     };
 
     private final Random random;
-    private final HeatBench bench = new HeatBench();
+    private final Bench bench = new Bench();
     private final Model model = new Model();
     private final int[] weights;
     private final boolean fewWaves;
@@ -40,7 +39,7 @@ public final class RandomRunsTest {
     }
 
     private void go(int seed) {
-        for (int i = 0; i < CALLS; i++) {
+        for (int i = 0; i < Bench.MOST_CALLS; i++) {
             step(seed, i, pick());
         }
     }
@@ -73,11 +72,11 @@ public final class RandomRunsTest {
     }
 
     private int rider() {
-        return number(0, bench.many(0) - 1);
+        return number(0, model.many(0) - 1);
     }
 
     private int ride() {
-        return number(0, Math.max(0, bench.many(1) - 1));
+        return number(0, Math.max(0, model.many(1) - 1));
     }
 
     private int wave() {
@@ -90,7 +89,7 @@ public final class RandomRunsTest {
     }
 
     private int day() {
-        return number(0, bench.many(4) - 1);
+        return number(0, model.many(4) - 1);
     }
 
     private int left() {
@@ -132,7 +131,7 @@ public final class RandomRunsTest {
             }
             case 17 -> { a = day(); b = number(0, 9); c = 0; got = bench.was(a, b); want = model.was(a, b); }
             case 18 -> {
-                a = number(0, bench.many(4)); b = left(); c = number(0, 1);
+                a = number(0, model.many(4)); b = left(); c = number(0, 1);
                 got = bench.worth(a, b, c); want = model.worth(a, b, c);
             }
             case 19 -> {
@@ -140,10 +139,10 @@ public final class RandomRunsTest {
                 got = bench.call(a, b, c); want = model.call(a, b, c);
             }
             case 20 -> {
-                a = number(0, bench.many(4)); b = number(0, 2); c = 0;
+                a = number(0, model.many(4)); b = number(0, 2); c = 0;
                 got = bench.run(a, b); want = model.run(a, b);
             }
-            case 21 -> { a = number(0, bench.many(4)); b = c = 0; got = bench.behind(a); want = model.behind(a); }
+            case 21 -> { a = number(0, model.many(4)); b = c = 0; got = bench.behind(a); want = model.behind(a); }
             default -> { a = number(0, 6); b = c = 0; got = bench.many(a); want = model.many(a); }
         }
         CHECK.due("run " + seed + ", call " + i + ": method " + method + " of " + a + ", " + b + ", " + c, got, want);
