@@ -224,6 +224,37 @@ public final class HeatTermsEdgesTest {
         faults(c, "by the line as it was, not as it is", z, 0, 0, 1);
     }
 
+    /** A line of four that begins with this rider and goes on by numbers, 0 behind 3. */
+    private static Bench lineFrom(int first) {
+        Bench x = Setup.heatOf(4);
+        for (int rider = 0; rider < first; rider++) {
+            x.take(rider, rider);
+            x.back(rider);
+        }
+        return x;
+    }
+
+    @Edge(in = "Terms", says = "of these the one who stood first in THE LINE as it was when the first of them took the WAVE has the right, all others have INTERFERED, ")
+    static void eachMayHaveTheRight(Check c) {
+        for (int first = 0; first < 4; first++) {
+            Bench x = lineFrom(first);
+            int[] due = new int[4];
+            x.take(first, 9);
+            faults(c, "alone", x, due);
+            for (int i = 1; i < 4; i++) {
+                int next = (first + i) % 4;
+                x.take(next, 9);
+                due[next] = 1;
+                faults(c, first + " stood and came first, then " + next, x, due);
+            }
+            Bench y = lineFrom(first);
+            for (int i = 3; i >= 0; i--) {
+                y.take((first + i) % 4, 9);
+            }
+            faults(c, first + " stood first and came last", y, due);
+        }
+    }
+
     @Edge(in = "Terms", says = "When a RIDER takes a WAVE that is the one that the latest RIDE was on, and was not yet LET GO, those who ride it are OVER one another:")
     static void whoIsNotOverAnother(Check c) {
         Bench x = Setup.heatOf(3);
@@ -298,6 +329,24 @@ public final class HeatTermsEdgesTest {
         faults(c, "2 ahead of 0 so far", z, 1, 0, 0);
         z.take(1, 2);
         faults(c, "1 was in the line, ahead of 2", z, 1, 0, 1);
+        for (int away = 0; away < 4; away++) {
+            for (int taker = 0; taker < 4; taker++) {
+                if (taker != away) {
+                    oneWasAway(c, away, taker);
+                }
+            }
+        }
+    }
+
+    private static void oneWasAway(Check c, int away, int taker) {
+        Bench x = Setup.heatOf(4);
+        x.take(away, 1);
+        x.take(taker, 2);
+        x.back(away);
+        x.take(away, 2);
+        int[] due = new int[4];
+        due[away] = 1;
+        faults(c, away + " was away as " + taker + " took the wave", x, due);
     }
 
     @Edge(in = "Terms", says = "A WAVE is LET GO by a RIDE on another one, by letGo(), and as a HEAT begins.")

@@ -25,6 +25,20 @@ public final class HeatsEdgesTest {
         return x;
     }
 
+    /** Riders 1 to 3 have interfered on wave 1; then 0 comes to stand last, and does so on wave 2. */
+    private static Bench allHaveInterfered() {
+        Bench x = Setup.heatOf(4);
+        for (int wave = 1; wave <= 2; wave++) {
+            for (int rider = 0; rider < 4; rider++) {
+                x.take(rider, wave);
+            }
+            for (int rider = 3; rider >= 0; rider--) {
+                x.back(rider);
+            }
+        }
+        return x;
+    }
+
     // ---- promise 2
 
     @Edge(in = "Promise 2", says = "A new HEAT of n RIDERS, without RIDES, INTERFERENCES: n.")
@@ -66,6 +80,14 @@ public final class HeatsEdgesTest {
         y.heat(4);
         c.due("riders that were gone have nothing", y.told(3, 3), 0);
         c.due("riders that were gone have nothing", y.told(3, 4), 0);
+        for (int n = 2; n <= 4; n++) {
+            Bench faulty = allHaveInterfered();
+            faulty.heat(n);
+            c.due("no interferences", faulty.many(6), 0);
+            for (int rider = 0; rider < n; rider++) {
+                c.due("no interferences of rider " + rider, faulty.told(rider, 3), 0);
+            }
+        }
         Bench z = new Bench();
         c.due("ahead of any ride", z.heat(2), 2);
         c.due("riders", z.many(0), 2);

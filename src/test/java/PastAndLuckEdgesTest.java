@@ -373,6 +373,8 @@ public final class PastAndLuckEdgesTest {
         int[] marks = {10, 20, 30, 40, 50, 60, 70, 80};
         luck(c, "the best is of one of the four", () -> dealt(4, "01230123", marks), new int[] {630, 630, 630, 630});
         luck(c, "seven and one", () -> dealt(2, "00000001", marks), new int[] {8, 0});
+        luck(c, "the last of eight decides", () -> dealt(2, "01010101", 0, 0, 0, 0, 0, 0, 0, 90), new int[] {35, 35});
+        luck(c, "the first of eight decides", () -> dealt(2, "00000111", 90, 0, 0, 0, 0, 0, 0, 0), new int[] {35, 21});
         luck(c, "none of rider 0", () -> dealt(3, "1212", 10, 20, 30, 40), new int[] {0, 3, 3});
         luck(c, "nobody", Setup::fresh, new int[] {1, 0});
         luck(c, "of three, one each", () -> dealt(3, "012", 30, 20, 10), new int[] {2, 2, 2});
