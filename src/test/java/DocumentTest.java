@@ -1,14 +1,11 @@
 import java.io.IOException;
 import java.lang.reflect.Method;
-import java.nio.file.Files;
-import java.nio.file.Path;
 import java.util.LinkedHashMap;
 import java.util.Map;
 
 /** Every word of the document's terms and promises is quoted by a test that would fail if it were broken. */
 public final class DocumentTest {
     private static final Check CHECK = new Check("DocumentTest");
-    private static final Path DOCUMENT = Path.of("../shared/DOC.md");
 
     private static final Class<?>[] TESTS = {
         HeatTermsEdgesTest.class, HeatsEdgesTest.class, PastAndLuckEdgesTest.class, DaysEdgesTest.class,
@@ -58,11 +55,11 @@ public final class DocumentTest {
     }
 
     public static void main(String[] args) throws IOException {
-        if (!Files.isReadable(DOCUMENT)) {
-            System.out.println("DocumentTest: there is no " + DOCUMENT + " to be read here, so nothing was looked at");
+        if (!Document.isReadable()) {
+            System.out.println("DocumentTest: there is no document to be read here, so nothing was looked at");
             return;
         }
-        Map<String, Section> sections = sectionsOf(Files.readString(DOCUMENT));
+        Map<String, Section> sections = promisingSections();
         CHECK.due("sections", sections.size(), 26);
         for (Class<?> tests : TESTS) {
             for (Method test : Edges.of(tests)) {
@@ -81,13 +78,12 @@ public final class DocumentTest {
     }
 
     /** The sections that promise something, by their headings up to the colon. */
-    private static Map<String, Section> sectionsOf(String document) {
+    private static Map<String, Section> promisingSections() throws IOException {
         Map<String, Section> found = new LinkedHashMap<>();
-        for (String part : document.split("(?m)^## ")) {
-            String heading = part.lines().findFirst().orElse("");
-            String name = heading.split(":")[0];
+        for (Map.Entry<String, String> section : Document.sections().entrySet()) {
+            String name = section.getKey();
             if (name.equals("What it is") || name.equals("Terms") || name.matches("Promise \\d+")) {
-                found.put(name, new Section(part.substring(heading.length())));
+                found.put(name, new Section(section.getValue()));
             }
         }
         return found;

@@ -10,6 +10,8 @@ import java.util.Arrays;
 import java.util.HashSet;
 import java.util.Set;
 import java.util.TreeSet;
+import java.util.regex.Matcher;
+import java.util.regex.Pattern;
 
 /** The public face of the document, and those rules of LANGUAGE.md that can be read off the class or its text. */
 public final class FaceTest {
@@ -36,6 +38,10 @@ public final class FaceTest {
         constructorAndClass();
         classesInside();
         text();
+        if (Document.isReadable()) {
+            faceOfTheDocument();
+            groupsOfTheDocument();
+        }
         CHECK.end();
     }
 
@@ -120,8 +126,43 @@ public final class FaceTest {
         }
     }
 
+    private static String program() throws IOException {
+        return Files.readString(Path.of("src/main/java/HeatBench.java"));
+    }
+
+    /** Each line of the document's face stands in the program, in the document's order. */
+    private static void faceOfTheDocument() throws IOException {
+        String program = program();
+        int at = 0;
+        int lines = 0;
+        Pattern open = Pattern.compile("(?m)^ *(public .*?)[;{]? *$");
+        Matcher line = open.matcher(Document.sections().get("The public face"));
+        while (line.find()) {
+            lines++;
+            String ending = line.group(1).contains(" = ") ? ";" : " {";
+            int found = program.indexOf(line.group(1).trim() + ending, at);
+            CHECK.due(line.group(1) + " stands in its place", found >= at ? 1 : 0, 1);
+            at = Math.max(at, found);
+        }
+        CHECK.due("lines of the face", lines, 1 + CONSTANTS.length + 1 + METHODS.length);
+    }
+
+    /** Ahead of the first call of each group the program says what the document says there. */
+    private static void groupsOfTheDocument() throws IOException {
+        String program = program();
+        int groups = 0;
+        Pattern ahead = Pattern.compile("Ahead of the calls `(\\w+)`[^.]* the interface says: (---- [a-z ]+)\\.");
+        Matcher group = ahead.matcher(Document.sections().get("Terms"));
+        while (group.find()) {
+            groups++;
+            Pattern there = Pattern.compile("// " + group.group(2) + "\\s+public \\w+ " + group.group(1) + "\\(");
+            CHECK.due(group.group(2), there.matcher(program).find() ? 1 : 0, 1);
+        }
+        CHECK.due("groups of calls", groups, 3);
+    }
+
     private static void text() throws IOException {
-        String whole = Files.readString(Path.of("src/main/java/HeatBench.java"));
+        String whole = program();
         String code = whole.replaceAll("(?s)/\\*.*?\\*/", " ").replaceAll("//[^\n]*", " ");
         Set<String> words = new HashSet<>(Arrays.asList(code.split("[^A-Za-z0-9_]+")));
         for (String word : BANNED_WORDS) {
